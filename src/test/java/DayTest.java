@@ -32,6 +32,7 @@ public final class DayTest {
                 int off = wet < 5 ? 5 - wet : wet - 5;
                 int due = left + (1000 - left) * warm * (10 - 2 * off) / 2000;
                 CHECK.due("grass behind warm " + warm + ", wet " + wet, x.grass(0, 3, 5), due);
+                CHECK.due("the other way, too", x.would(0, 1), due);
                 CHECK.due("no wear by weather", x.field(0, 5), 0);
             }
         }
@@ -43,6 +44,8 @@ public final class DayTest {
         CHECK.due("drowned", x.grass(0, 0, 0), 0);
         x.day(10, 9);
         CHECK.due("not under 0, and then it grows", x.grass(0, 0, 0), 10);
+        x.day(10, 9);
+        CHECK.due("by what is left", x.grass(0, 0, 0), 10);
     }
 
     private static FieldKeeper played(int stand, int age, int wet) {

@@ -158,6 +158,8 @@ public final class TextTest {
         shuts("least = 800 and mean = 800", true);
         shuts("played = 0 and day = 0", true);
         shuts("age = 0 - 1", true);
+        shuts("1" + "+1".repeat(200) + "-201", false);
+        shuts("1" + "+1".repeat(200) + "=201", true);
         shuts("2 and 2 = 1 + (2 and 2 = 1 + (2 and 2 = 1 + (2 and 2 = 1 + (2 and 2 = 1 + 1))))", true);
         shuts("2 and 2 = 1 + (2 and 2 = 1 + (2 and 2 = 1 + (2 and 2 = 1 + (2 and 2 = 1 + 2))))", false);
     }
