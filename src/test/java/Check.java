@@ -1,54 +1,58 @@
-import java.util.NoSuchElementException;
+import java.lang.reflect.InvocationTargetException;
+import java.lang.reflect.Method;
+import java.util.Arrays;
+import java.util.Comparator;
 
 /** Counts the answers that are not as due, and tells them. */
 final class Check {
-    static final int THROWN = Integer.MIN_VALUE;
-
+    private String test = "";
     private int wrong;
     private int asked;
+
+    /**
+     * Runs each static method of a class whose name begins with "promise", by its name,
+     * so that no test can be written and then left out of a list.
+     */
+    static void runTests(Class<?> owner) {
+        Check check = new Check();
+        Method[] methods = owner.getDeclaredMethods();
+        Arrays.sort(methods, Comparator.comparing(Method::getName));
+        int tests = 0;
+        for (Method method : methods) {
+            if (method.getName().startsWith("promise")) {
+                check.runTest(method);
+                tests++;
+            }
+        }
+        check.due("tests of " + owner.getName(), tests > 0 ? 1 : 0, 1);
+        System.out.print(tests + " tests: ");
+        check.finish();
+    }
+
+    private void runTest(Method method) {
+        test = method.getName() + ": ";
+        int before = asked;
+        try {
+            method.invoke(null, this);
+        } catch (InvocationTargetException e) {
+            due("threw " + e.getCause(), 1, 0);
+        } catch (IllegalAccessException e) {
+            due("can't be called: " + e, 1, 0);
+        }
+        due("asks something", asked > before ? 1 : 0, 1);
+        test = "";
+    }
 
     void due(String call, long got, long want) {
         asked++;
         if (got != want) {
             wrong++;
-            System.out.println(call + " answered " + got + ", due is " + want);
+            System.out.println(test + call + " answered " + got + ", due is " + want);
         }
     }
 
-    /** What look answers, or THROWN where it throws what the document names. */
-    static int look(FieldKeeper keeper, int game, int what) {
-        try {
-            return keeper.look(game, what);
-        } catch (NoSuchElementException e) {
-            return THROWN;
-        }
-    }
-
-    static int feed(FieldKeeper keeper, String text) {
-        int size = keeper.count(8);
-        for (int from = 0; from < text.length(); from += 24) {
-            size = keeper.feed(pack(text, from), pack(text, from + 8), pack(text, from + 16));
-        }
-        return size;
-    }
-
-    static long pack(String text, int from) {
-        long packed = 0;
-        for (int i = from; i < from + 8; i++) {
-            packed = packed << 8 | (i < text.length() ? text.charAt(i) & 255 : 0);
-        }
-        return packed;
-    }
-
-    static int read(FieldKeeper keeper, String text) {
-        feed(keeper, text);
-        return keeper.text();
-    }
-
-    /** A game's whole place in one number: day, hour, pitch; or -1. */
-    static int place(FieldKeeper keeper, int game) {
-        int day = look(keeper, game, 1);
-        return day < 0 ? day : day * 100 + look(keeper, game, 2) * 10 + look(keeper, game, 3);
+    void none(String call, long got) {
+        due(call, got, FieldKeeper.NONE);
     }
 
     void finish() {

@@ -466,7 +466,7 @@ final class PlainKeeper {
 
     int look(int game, int what) {
         if (game < 0 || game >= games.size() || what < 0 || what > 4) {
-            return Check.THROWN;
+            return Calls.THROWN;
         }
         G g = games.get(game);
         if (what >= 1 && what <= 3 && !g.lies()) {

@@ -84,9 +84,9 @@ public final class RandomRunsTest {
 
     private void feed(String text) {
         for (int from = 0; from < text.length(); from += 24) {
-            long a = Check.pack(text, from);
-            long b = Check.pack(text, from + 8);
-            long c = Check.pack(text, from + 16);
+            long a = Calls.pack(text, from);
+            long b = Calls.pack(text, from + 8);
+            long c = Calls.pack(text, from + 16);
             due("feed", real.feed(a, b, c), plain.feed(a, b, c));
         }
     }
@@ -147,7 +147,7 @@ public final class RandomRunsTest {
         }
         for (int game = -1; game <= plain.games.size(); game++) {
             for (int what = -1; what <= 5; what++) {
-                due("look(" + game + ", " + what + ")", Check.look(real, game, what), plain.look(game, what));
+                due("look(" + game + ", " + what + ")", Calls.look(real, game, what), plain.look(game, what));
             }
         }
         for (int pitch = -1; pitch <= 6; pitch++) {
