@@ -1,6 +1,11 @@
 /** Promise 6: text. What its lines shut is tested with promise 7. */
 public final class Promise06TextTest {
     private static final String LINE = "shut 0 when 1;";
+    private static final String[] PARTS = {"wet", "warm", "least", "mean", "played", "day", "hour", "age", "0", "5", "9999", "("};
+    private static final String[] BEHIND_A_SUM = {"+", "-", "<", "=", "and", ";"};
+    private static final String[] BEHIND_A_TEST = {"+", "-", "and", ";"};
+    private static final String[] TOKENS = {"shut", "all", "when", "and", "wet", "warm", "least", "mean", "played", "day",
+        "hour", "age", "0", "5", "9999", "(", ")", "<", "=", "+", "-", ";", "#", "x", "abcdefghi", "12345"};
 
     private static void good(Check check, String text, int lines) {
         FieldKeeper x = new FieldKeeper();
@@ -217,6 +222,51 @@ public final class Promise06TextTest {
         fault(check, "shut 0 when #; shut 6 when 1;", 1, 12);
         fault(check, "# shut 6", 1, 0);
         fault(check, LINE.repeat(15) + "shut 6 when 1;" + LINE, 4, 14 * 15 + 5);
+    }
+
+    /** Each token behind a good beginning: those that may stand there are followed by the end, the others are wrong. */
+    private static void mayStand(Check check, String before, String... allowed) {
+        for (String token : TOKENS) {
+            boolean fits = java.util.Arrays.asList(allowed).contains(token);
+            if (fits && token.equals(";")) {
+                good(check, before + token, 1);
+            } else {
+                fault(check, before + token, 1, before.length() + (fits ? token.length() : 0));
+            }
+        }
+    }
+
+    static void promise6EachTokenAtALinesBeginning(Check check) {
+        mayStand(check, "", "shut");
+        mayStand(check, LINE + " ", "shut");
+        mayStand(check, "shut all ", "when");
+        mayStand(check, "shut 0 ", "when");
+        FieldKeeper x = new FieldKeeper();
+        check.due("9999 is no pitch", Calls.read(x, "shut 9999"), 4 + 16 * 5);
+        for (String token : TOKENS) {
+            if (!token.equals("9999")) {
+                boolean fits = token.equals("all") || token.equals("0") || token.equals("5");
+                fault(check, "shut " + token, 1, 5 + (fits ? token.length() : 0));
+            }
+        }
+    }
+
+    static void promise6EachTokenWhereAPartMayStand(Check check) {
+        for (String before : new String[] {"", "1 + ", "1 - ", "1 < ", "1 = ", "1 and ", "( ", "1 < 2 and ", "1 = 2 + "}) {
+            mayStand(check, "shut 0 when " + before, PARTS);
+        }
+    }
+
+    static void promise6EachTokenBehindAPart(Check check) {
+        for (String before : new String[] {"1 ", "wet ", "( 1 ) ", "1 + 2 ", "1 and 2 ", "1 < 2 and 3 ", "( 1 < 2 ) "}) {
+            mayStand(check, "shut 0 when " + before, BEHIND_A_SUM);
+        }
+        for (String before : new String[] {"1 < 2 ", "1 = wet ", "1 < ( 2 ) ", "1 = 2 + 3 ", "1 and 2 = 3 "}) {
+            mayStand(check, "shut 0 when " + before, BEHIND_A_TEST);
+        }
+        mayStand(check, "shut 0 when ( 1 ", "+", "-", "<", "=", "and", ")");
+        mayStand(check, "shut 0 when ( 1 < 2 ", "+", "-", "and", ")");
+        mayStand(check, "shut 0 when 1 < ( 2 ", "+", "-", "<", "=", "and", ")");
     }
 
     static void promise6WhatCanNotStandThere(Check check) {

@@ -36,6 +36,14 @@ public final class Promise07ShutTest {
         shut(check, "9999" + "+9999".repeat(57) + "-9999".repeat(57) + "=9999");
     }
 
+    static void promise7NumbersGoTo9999(Check check) {
+        shut(check, "9999 = 9998 + 1", "9998 < 9999", "9999 - 9998 = 1", "1000 = 999 + 1", "9990 = 9989 + 1");
+        open(check, "9999 = 9998", "9999 < 9999", "9999 = wet", "9998 = warm", "9999 = warm", "9999 - 9999");
+        for (int digit = 0; digit <= 9; digit++) {
+            shut(check, digit + "000 - " + digit + "00 - " + digit + "0 - " + digit + " = " + 889 * digit);
+        }
+    }
+
     static void promise7LessAndEqual(Check check) {
         shut(check, "1 < 2", "2 = 2", "2 - 3 < 0", "0 - 2 < 0 - 1", "(1 < 2) = 1", "(2 < 1) = 0", "(2 = 2) + (1 < 2) = 2");
         open(check, "2 < 2", "3 < 2", "2 = 3", "3 = 2", "0 - 1 < 0 - 2", "0 < 0");
