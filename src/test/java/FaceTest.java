@@ -8,7 +8,7 @@ import java.util.Arrays;
 import java.util.Set;
 import java.util.TreeSet;
 
-/** The rules of LANGUAGE.md that can be seen from outside: the face (1), static state (5), words that are ruled out. */
+/** The rules of LANGUAGE.md that can be seen from outside: the face (1), static state (5), sizes (11), words that are ruled out. */
 public final class FaceTest {
     private static final Check CHECK = new Check();
     private static final String[] FACE = {
@@ -51,20 +51,31 @@ public final class FaceTest {
     }
 
     private static void fields(Class<?> owner, boolean outer) {
+        int ofAnObject = 0;
         for (Field f : owner.getDeclaredFields()) {
             int modifiers = f.getModifiers();
+            ofAnObject += Modifier.isStatic(modifiers) ? 0 : 1;
             boolean hidden = Modifier.isPrivate(modifiers) || f.getName().equals("NONE");
             CHECK.due("hidden: " + f, !outer || hidden ? 1 : 0, 1);
             CHECK.due("static is final: " + f, !Modifier.isStatic(modifiers) || Modifier.isFinal(modifiers) ? 1 : 0, 1);
+        }
+        CHECK.due("at most twenty fields: " + owner, ofAnObject <= 20 ? 1 : 0, 1);
+    }
+
+    private static void parameters(Class<?> owner) {
+        for (Method m : owner.getDeclaredMethods()) {
+            CHECK.due("at most seven parameters: " + m, m.getParameterCount() <= 7 ? 1 : 0, 1);
         }
     }
 
     private static void classesInside() {
         fields(FieldKeeper.class, true);
+        parameters(FieldKeeper.class);
         Class<?>[] inside = FieldKeeper.class.getDeclaredClasses();
         CHECK.due("at most twelve classes", inside.length < 12 ? 1 : 0, 1);
         for (Class<?> c : inside) {
             fields(c, false);
+            parameters(c);
             CHECK.due("static: " + c, Modifier.isStatic(c.getModifiers()) ? 1 : 0, 1);
             CHECK.due("not public: " + c, Modifier.isPublic(c.getModifiers()) ? 1 : 0, 0);
         }
